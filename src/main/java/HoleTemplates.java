@@ -258,12 +258,18 @@ public final class HoleTemplates {
 
         /** The number of the first item, also where the variable has none. */
         int from(int v) {
-            return lone(v) != NONE ? lone(v) : v * ITEM_LIMIT;
+            if (!isVariable(v)) {
+                return 0;
+            }
+            return alone[v] != NONE ? alone[v] : v * ITEM_LIMIT;
         }
 
         /** The number behind the last item. */
         int upTo(int v) {
-            return lone(v) != NONE ? lone(v) + 1 : v * ITEM_LIMIT + count(v);
+            if (!isVariable(v)) {
+                return 0;
+            }
+            return alone[v] != NONE ? alone[v] + 1 : v * ITEM_LIMIT + counts[v];
         }
 
         int first(int v) {

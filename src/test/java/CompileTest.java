@@ -12,6 +12,7 @@ public final class CompileTest {
         symbols();
         branches();
         depth();
+        oneTemplateAfterAnother();
         CHECK.end();
     }
 
@@ -132,6 +133,10 @@ public final class CompileTest {
         refused("{?a}{:}{:}{/}", 7);
         refused("{*a}{:}{/}", 4);
         refused("{?a}{*b}{:}{/}{/}", 8);
+        refused("{?a}{/x}{/}", 4);
+        refused("{?a}{x}{/}", 4);
+        refused("{?a}{:x}{/}", 4);
+        refused("{?a}{::}{/}", 4);
         refused("{?a}", 4);
         refused("{*a}xyz", 7);
         refused("{?a}{:}", 7);
@@ -144,6 +149,13 @@ public final class CompileTest {
         codes("{?a}<p {:}<q {/}>", "");
         codes("{?a}<title {:}<title x {/}></title>", "");
         codes("{?a}<p>{:}<title></title>{/}", "");
+        codes("{?a}<p x=''>{:}<p src=\"\">{/}", "");
+        codes("{?a}<p x='' {:}<p on=\"\" {/}>", "");
+        codes("{?a}<script>'x'</script>{:}{/}", "");
+        codes("<p x='{?a}' y=\"{:}' z=\"{/}\">", "");
+        codes("<p {?a}><title {:}><title {/}></title>", "");
+        codes("<p x='{?a}' on='{:}`' on='{/}'>", "");
+        codes("<script>{?a}'{:}{b}'{/}{c}'</script>", "8 9");
         codes("{?a}<p x='{:}<p y='{/}'>", "");
         refused("{?a}<p x='{:}<p y=\"{/}'>", 19);
         refused("{?a}<p x='{:}<p src='{/}'>", 21);
@@ -164,6 +176,28 @@ public final class CompileTest {
         codes("{*b}<!---->{/}", "");
         refused("{?a}{:}<p {/}>", 10);
         refused("{?a}<!--{:}-->{/}", 14);
+    }
+
+    /** What an earlier template has left behind must not be seen by a shorter one. */
+    private static void oneTemplateAfterAnother() {
+        String[] cutOff = {"x&", "<p", "</p", "<!-", "<p a", "<p a='", "<title>&am", "<!-- -", "<script>'\\", "<style>a/"};
+        int[] faults = {1, 0, 0, 0, 3, 6, 7, 5, 9, 8};
+        for (int i = 0; i < cutOff.length; i++) {
+            HoleTemplates x = Bench.withTemplate(Bench.times("->", 60));
+            x.compile();
+            x.clear();
+            Bench.addAll(x, cutOff[i]);
+            CHECK.same("accepts " + cutOff[i], false, x.accepts());
+            CHECK.same("fault of " + cutOff[i], faults[i], x.fault());
+        }
+        HoleTemplates y = Bench.withTemplate("{?a}<p {b");
+        CHECK.same("accepts what stays open", false, y.accepts());
+        y.clear();
+        Bench.addAll(y, "{c}");
+        CHECK.same("compile behind it", 1, y.compile());
+        y.clear();
+        Bench.addAll(y, "{/}");
+        CHECK.same("nothing is open behind it", false, y.accepts());
     }
 
     private static void depth() {

@@ -54,6 +54,13 @@ public final class ContextsTest {
         refused("</>", 0);
         refused("</p >", 0);
         refused("</P>", 0);
+        refused("</p><", 4);
+        read("<azbyz></azbyz>", "");
+        refused("</p`>", 0);
+        refused("<p`>", 0);
+        refused("<p{{>", 0);
+        read("<xcript>`</xcript><xtyle>{a}</xtyle><xitle><b></xitle>", "0");
+        read("<scripx>{a}<stylx>{b}<titlx>{c}", "0 0 0");
         refused("</p", 0);
         refused("</{a}>", 0);
         refused("<!doctype html>", 0);
@@ -113,6 +120,7 @@ public final class ContextsTest {
         refused("<p a={a}>", 3);
         refused("<p a='1' b=2>", 9);
         refused("<p a/b>", 4);
+        read("<p xref='{a}' xrc='{b}' xction='{c}' xtyle='{d}' xn='{e}' ox='{f}'>", "1 1 1 1 1 1");
         read("<p hrefs='{a}' xsrc='{b}' action-x='{c}' styles='{d}' o='{e}'>", "1 1 1 1 1");
         read("<p href='{a}' src='{b}' action='{c}' style='{d}' on='{e}' one='{f}' on-x='{g}'>", "2 2 2 28 24 24 24");
     }

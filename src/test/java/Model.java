@@ -22,6 +22,7 @@ final class Model {
     String writing = "";
     final List<List<String>> items = new ArrayList<>();
     private List<Integer> holes = new ArrayList<>();
+    private String[] symbolAt;
     private List<String> symbols = new ArrayList<>();
     private List<Integer> codes = new ArrayList<>();
 
@@ -49,29 +50,45 @@ final class Model {
         return compiled;
     }
 
+    /** Cuts the template, from the left; a place where no symbol begins has none. */
+    private void cut() {
+        symbolAt = new String[template.length() + 1];
+        Matcher m = SYMBOL.matcher(template);
+        int at = 0;
+        while (at < template.length() && m.region(at, template.length()).lookingAt()) {
+            symbolAt[at] = m.group();
+            at = m.end();
+        }
+    }
+
+    private String runFrom(int from) {
+        StringBuilder run = new StringBuilder();
+        for (int i = from; symbolAt[i] != null && isCharacter(symbolAt[i]); i += symbolAt[i].length()) {
+            run.append(symbolAt[i].charAt(0));
+        }
+        return run.toString();
+    }
+
     /** Answers the fault, -1 if there is none. */
     private int read() {
+        cut();
         String context = "TEXT";
         List<String[]> open = new ArrayList<>();
         int at = 0;
         while (at < template.length()) {
-            String symbol = symbolAt(at);
+            String symbol = symbolAt[at];
             if (symbol == null) {
                 return at;
             }
             if (isCharacter(symbol)) {
-                StringBuilder run = new StringBuilder();
-                for (int i = at; symbolAt(i) != null && isCharacter(symbolAt(i)); i += symbolAt(i).length()) {
-                    run.append(symbolAt(i).charAt(0));
-                }
-                String[] found = piece(run.toString(), context);
+                String[] found = piece(runFrom(at), context);
                 if (found == null) {
                     return at;
                 }
                 context = found[1];
                 for (int n = 0; n < found[0].length(); n++) {
-                    keep(symbolAt(at), -1);
-                    at += symbolAt(at).length();
+                    keep(symbolAt[at], -1);
+                    at += symbolAt[at].length();
                 }
                 continue;
             }
@@ -112,11 +129,6 @@ final class Model {
     private void keep(String symbol, int code) {
         symbols.add(symbol);
         codes.add(code);
-    }
-
-    private String symbolAt(int at) {
-        Matcher m = SYMBOL.matcher(template).region(at, template.length());
-        return m.lookingAt() ? m.group() : null;
     }
 
     private static boolean isCharacter(String symbol) {
@@ -321,9 +333,10 @@ final class Model {
 
     private static String escape(String item, String kept, String before, String behind) {
         StringBuilder b = new StringBuilder();
+        Pattern keeps = PATTERNS.computeIfAbsent(kept, Pattern::compile);
         for (char c : item.toCharArray()) {
             String s = String.valueOf(c);
-            b.append(s.matches(kept) ? s : before + String.format("%02X", (int) c) + behind);
+            b.append(keeps.matcher(s).matches() ? s : before + String.format("%02X", (int) c) + behind);
         }
         return b.toString();
     }

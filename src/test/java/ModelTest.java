@@ -17,7 +17,7 @@ public final class ModelTest {
     private static int written;
 
     public static void main(String[] args) {
-        for (int run = 0; run < 60000; run++) {
+        for (int run = 0; run < 40000; run++) {
             pages();
         }
         for (int run = 0; run < 3000; run++) {

@@ -92,6 +92,10 @@ public final class ValuesTest {
         item("<a href='{a}'>", "javascript:x", "#off");
         item("<a href='{a}'>", "httpx:y", "#off");
         item("<a href='{a}'>", "htt:y", "#off");
+        item("<a href='{a}'>", "xttp:y", "#off");
+        item("<a href='{a}'>", "xttps:y", "#off");
+        item("<a href='{a}'>", "Pailto:y", "#off");
+        item("<a href='{a}'>", "mailtp:y", "#off");
         item("<a href='{a}'>", "httpss:y", "#off");
         item("<a href='{a}'>", " http:y", "#off");
         item("<a href='{a}'>", "http :y", "#off");

@@ -130,6 +130,8 @@ public final class WriteTest {
         CHECK.same("empty branches", "", Bench.write("{?a}{:}{/}", "i"));
         CHECK.same("one in another", "y2", Bench.write("{?a}{?b}y1{:}y2{/}{:}{?b}n1{:}n2{/}{/}", "i"));
         CHECK.same("one in another's otherwise", "n1", Bench.write("{?a}{?b}y1{:}y2{/}{:}{?b}n1{:}n2{/}{/}", "", "i"));
+        CHECK.same("six, first branches", "6", Bench.write(Bench.times("{?a}", 6) + "6" + Bench.times("{/}", 6), "i"));
+        CHECK.same("six, otherwise", "6", Bench.write(Bench.times("{?a}{:}", 6) + "6" + Bench.times("{/}", 6)));
         HoleTemplates x = Bench.withTemplate("{?a}y{:}n{/}");
         Bench.give(x, 'a', "");
         Bench.give(x, 'a', "second");
