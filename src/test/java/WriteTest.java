@@ -11,6 +11,7 @@ public final class WriteTest {
         choices();
         loops();
         manyLoops();
+        oneTemplateAfterAnother();
         CHECK.end();
     }
 
@@ -167,5 +168,22 @@ public final class WriteTest {
         CHECK.thrown("50 characters, 4096 times", IllegalStateException.class, x::write);
         x.forget(5);
         CHECK.same("one loop has nothing", 0, x.write());
+    }
+
+    /** What compiling has noted for an earlier template must not steer the writing of a later one. */
+    private static void oneTemplateAfterAnother() {
+        HoleTemplates x = Bench.withTemplate("{?a}xyz{:}u{/}<script>'{a}'</script>");
+        x.compile();
+        x.clear();
+        Bench.addAll(x, "abcdefghijklmnopqrstu{a}");
+        Bench.give(x, 'a', "<");
+        x.compile();
+        x.write();
+        CHECK.same("the later one", "abcdefghijklmnopqrstu&lt;", Bench.writing(x));
+        x.clear();
+        Bench.addAll(x, "{*a}{?b}x{/}y{/}");
+        x.compile();
+        x.write();
+        CHECK.same("and one more", "y", Bench.writing(x));
     }
 }
