@@ -9,9 +9,12 @@ import java.util.regex.Pattern;
 public final class LanguageTest {
     private static final Check CHECK = new Check("LanguageTest");
     private static final String[] NOT_THERE = {
-        "\\bimport\\b", "\\bpackage\\b", "->", "::", "\\btry\\b", "\\bcatch\\b", "\\bfinally\\b", "\\bsynchronized\\b",
-        "\\bassert\\b", "\\bstatic\\s*\\{", "\\bprotected\\b", "\\bMath\\.\\w+Exact\\b", "\\bObject\\b", "\\bSystem\\.(?!arraycopy)",
-        "\\b(String|Math|Integer)\\.(format|valueOf|random)\\b", "\"\\s*\\+", "\\+\\s*\"", "@",
+        "\\bimport\\s+(?!java\\.util\\.(ArrayList|List|Arrays|Iterator|NoSuchElementException);)", "\\bpackage\\b", "::",
+        "(?m)^(?!\\s*(case\\b|default\\b)).*->", "\\bfinally\\b", "\\bsynchronized\\b", "\\bassert\\b",
+        "\\bstatic\\s*\\{", "\\bprotected\\b", "\\bMath\\.\\w+Exact\\b", "\\bObject\\b", "\\bSystem\\.(?!arraycopy)",
+        "\\b(String|Math|Integer)\\.(format|valueOf|random)\\b", "\"\\s*\\+", "\\+\\s*\"",
+        "\\bcatch\\s*\\([^)]*\\b(ArrayIndexOutOfBounds|NullPointer|ClassCast|NegativeArraySize|ArrayStore)Exception\\b",
+        "\\bcatch\\s*\\([^)]*\\b(Exception|Throwable|Error)\\b",
     };
 
     public static void main(String[] args) throws IOException {
@@ -28,7 +31,7 @@ public final class LanguageTest {
             count++;
         }
         CHECK.same("at most twelve classes", true, count <= 12);
-        Matcher thrown = Pattern.compile("throw (?!new \\w+\\(\"[^\"]*\"\\);)").matcher(source);
+        Matcher thrown = Pattern.compile("throw (?!new \\w+\\((\"[^\"]*\")?\\);)").matcher(source);
         CHECK.same("throws of another form", false, thrown.find());
         CHECK.end();
     }
